@@ -7,12 +7,14 @@ final class ChoicesTest {
         chooseErrors();
         plan();
         planOfEqualCosts();
+        planOfSides();
         planAlreadySo();
         set();
         setErrors();
         ifChosen();
         cheapest();
         leastCost();
+        twelveLots();
         Checks.finish();
     }
 
@@ -55,6 +57,9 @@ final class ChoicesTest {
         x = Checks.loaded("3c@3+,3");
         Checks.due("plan takes a blank away", 40, x.plan());
         Checks.state("plan takes a blank away", x, "3c@1,3" + AT_FIRST);
+        x = Checks.loaded("3b@3");
+        Checks.due("plan of a place alone", 20, x.plan());
+        Checks.state("plan of a place alone", x, "3b@1" + AT_FIRST);
         x = Checks.loaded("1,1c,1c,1c");
         x.set(0, 4);
         x.set(2, 99);
@@ -82,6 +87,24 @@ final class ChoicesTest {
         x = Checks.loaded("2,1,1b,1b");
         x.plan();
         Checks.state("the later lot has the blank", x, "2,1,1b@0,1b@0" + AT_FIRST);
+    }
+
+    /** A side that is in colour is paid once, in its gathering alone. */
+    private static void planOfSides() {
+        FacingPlates x = Checks.loaded("1,2c,1,1c,1c");
+        x.set(0, 4);
+        Checks.due("two blanks cheaper than a side", 3 * 20 + 2 * 20 + 2, x.leastCost(4));
+        x.set(3, 30);
+        Checks.due("blanks dearer than a side", 3 * 20 + 3 * 20, x.leastCost(4));
+        x.set(0, 8);
+        Checks.due("blanks dearer than a side of 8 pages", 2 * 20 + 2 * 20, x.leastCost(8));
+        x.plan();
+        Checks.due("blanks dearer than a side of 8 pages", 2 * 20 + 2 * 20, x.count(9));
+        x = Checks.loaded("3,2c,1,1c");
+        x.set(0, 4);
+        x.set(3, 30);
+        Checks.due("a blank dearer than a side", 2 * 20 + 2 * 20, x.leastCost(4));
+        Checks.due("one side of 8 pages", 40 + 20, x.leastCost(8));
     }
 
     private static void planAlreadySo() {
@@ -188,5 +211,25 @@ final class ChoicesTest {
         Checks.due("no act", 2, x.count(15));
         Checks.state("nothing changed", x, "3c@3,3c@3,3c@3,3c@3 8 30 20 1 100");
         Checks.due("least of no lots", 0, new FacingPlates().leastCost(16));
+    }
+
+    private static void twelveLots() {
+        FacingPlates x = Checks.loaded("1,1,1,1,1,1,1,1,1,1,1,1");
+        x.set(3, 0);
+        Checks.due("free blanks need gatherings", 2 * 20, x.leastCost(8));
+        Checks.due("free blanks need gatherings", 3 * 20, x.leastCost(4));
+        Checks.due("no blanks though they are free", FacingPlates.NONE, x.plan());
+        x = Checks.loaded("1b,1b,1b,1b,1b,1b,1b,1b,1b,1b,1b,1b");
+        x.set(0, 4);
+        Checks.due("one blank for twelve", 7 * 20 + 1, x.plan());
+        Checks.due("all twelve face", 12, x.count(3));
+        x = new FacingPlates();
+        for (int lot = 0; lot < 12; lot++) {
+            x.add(3, 2);
+        }
+        x.set(1, 0);
+        x.set(4, 0);
+        x.set(3, 99);
+        Checks.due("the whole of twelve", 6 * 20, x.leastCost(8));
     }
 }

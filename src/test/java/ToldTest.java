@@ -3,6 +3,7 @@ final class ToldTest {
     public static void main(String[] args) {
         lot();
         whyNot();
+        whyNotOfOtherStates();
         lotErrors();
         page();
         sides();
@@ -68,6 +69,16 @@ final class ToldTest {
         why("1,1b+", 1, 3);
         why("1,1b@1+,1+", 1, 3);
         why("3,3,3,3,3,1b@0", 5, 0);
+    }
+
+    private static void whyNotOfOtherStates() {
+        FacingPlates x = Checks.loaded("1b");
+        Checks.due("alone", 1, x.lot(0, 7));
+        x.change(0, 1, 0);
+        Checks.due("without a plate", 0, x.lot(0, 7));
+        Checks.due("without a plate", 1, x.lot(0, 6));
+        x.undo();
+        Checks.due("alone again", 1, x.lot(0, 7));
     }
 
     private static void lotErrors() {
@@ -167,6 +178,12 @@ final class ToldTest {
         x.set(0, 4);
         gatheringIs(x, 0, 4, 0, 0, 0, 0, 0);
         gatheringIs(x, 1, 1, 0, 3, 0, 0, 0);
+        x = Checks.loaded("3,3,1c@1,1");
+        gatheringIs(x, 0, 3, 1, 0, 1, 1, 0);
+        gatheringIs(x, 1, 1, 0, 7, 0, 0, 0);
+        x = Checks.loaded("3,3,1,1,1c");
+        gatheringIs(x, 0, 4, 0, 0, 0, 0, 0);
+        gatheringIs(x, 1, 1, 1, 6, 1, 1, 0);
         x = Checks.loaded("3,1+,1");
         x.set(0, 4);
         gatheringIs(x, 0, 1, 0, 1, 0, 0, 0);
