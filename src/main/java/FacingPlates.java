@@ -379,13 +379,13 @@ public final class FacingPlates {
 
     /** One row holds a whole state, so that history and snapshot copy it in one go. */
     private static final class Catalogue {
-        static final int CELLS = 1 + MOST_LOTS * 4 + SETTINGS;
         private static final int FIELDS = 4;
         private static final int TEXT = 1;
         private static final int PLATE = 2;
         private static final int BLANK = 3;
         private static final int PLACE = 4;
         private static final int LOT_CELLS = 1 + MOST_LOTS * FIELDS;
+        static final int CELLS = LOT_CELLS + SETTINGS;
 
         private final Row cells = new Row(CELLS);
 
