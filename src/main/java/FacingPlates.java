@@ -862,7 +862,11 @@ public final class FacingPlates {
             if (leastFrom(0, 0) >= IMPOSSIBLE) {
                 return false;
             }
-            follow();
+            int standing = 0;
+            for (int lot = 0; lot < chosen.lots(); lot++) {
+                chooseFirst(lot, standing);
+                standing = standingBehind(lot, standing, chosen.blank(lot), chosen.place(lot));
+            }
             return true;
         }
 
@@ -890,14 +894,6 @@ public final class FacingPlates {
                     }
                 }
                 putLeast(lot, standing, cost);
-            }
-        }
-
-        private void follow() {
-            int standing = 0;
-            for (int lot = 0; lot < chosen.lots(); lot++) {
-                chooseFirst(lot, standing);
-                standing = standingBehind(lot, standing, chosen.blank(lot), chosen.place(lot));
             }
         }
 

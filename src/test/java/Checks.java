@@ -1,5 +1,9 @@
 /** Counts the answers that are not as due; finish() ends a test's main method. */
 final class Checks {
+    /** Out of every argument's range; times 4, 8 or 16 some of them wrap around and come back into it. */
+    static final int[] FAR = {Integer.MIN_VALUE, Integer.MIN_VALUE + 1, -(1 << 30), -1000, 1000, 1 << 28, 1 << 29,
+        1 << 30, Integer.MAX_VALUE - 1, Integer.MAX_VALUE};
+
     private static int wrong = 0;
 
     private Checks() {
@@ -43,16 +47,20 @@ final class Checks {
 
     /** Tells whether lots, choices and settings are the text's that write() gives. */
     static void state(String what, FacingPlates x, String want) {
-        String got = write(x);
+        same(what + ": the state", want, write(x));
+    }
+
+    static void same(String what, String want, String got) {
         if (!got.equals(want)) {
             wrong++;
-            System.out.println(what + ": the state is " + got + ", due is " + want);
+            System.out.println(what + " is " + got + ", due is " + want);
         }
     }
 
     static String write(FacingPlates x) {
         StringBuilder out = new StringBuilder();
-        for (int lot = 0; lot < x.count(0); lot++) {
+        int lots = x.count(0);
+        for (int lot = 0; lot < lots; lot++) {
             out.append(lot == 0 ? "" : ",").append(x.lot(lot, 0));
             int plate = x.lot(lot, 1);
             if (plate != 0) {
