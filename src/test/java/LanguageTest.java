@@ -102,15 +102,38 @@ final class LanguageTest {
     }
 
     private static void insides() {
-        for (Class<?> inside : FacingPlates.class.getDeclaredClasses()) {
-            Checks.due("static " + inside, 1, Modifier.isStatic(inside.getModifiers()) ? 1 : 0);
-            for (Field field : inside.getDeclaredFields()) {
-                boolean constant = Modifier.isStatic(field.getModifiers());
-                Checks.due("static " + field, 1, !constant || Modifier.isFinal(field.getModifiers()) ? 1 : 0);
-            }
+        Class<?>[] insides = FacingPlates.class.getDeclaredClasses();
+        Checks.due("at most twelve classes", 1, insides.length + 1 <= 12 ? 1 : 0);
+        fewFields(FacingPlates.class);
+        for (Class<?> inside : insides) {
+            int modifiers = inside.getModifiers();
+            Checks.due("static " + inside, 1, Modifier.isStatic(modifiers) ? 1 : 0);
+            Checks.due("public " + inside, 0, modifiers & (Modifier.PUBLIC | Modifier.PROTECTED));
+            Checks.due("classes inside of " + inside, 0, inside.getDeclaredClasses().length);
+            fewFields(inside);
             for (Method method : inside.getDeclaredMethods()) {
                 Checks.due("parameters of " + method, 1, method.getParameterCount() <= 7 ? 1 : 0);
+                Checks.due("name of " + method, 0, isPublicName(method.getName()) ? 1 : 0);
             }
         }
+    }
+
+    private static void fewFields(Class<?> type) {
+        int fields = 0;
+        for (Field field : type.getDeclaredFields()) {
+            boolean constant = Modifier.isStatic(field.getModifiers());
+            Checks.due("static " + field, 1, !constant || Modifier.isFinal(field.getModifiers()) ? 1 : 0);
+            fields += constant ? 0 : 1;
+        }
+        Checks.due("at most twenty fields of " + type, 1, fields <= 20 ? 1 : 0);
+    }
+
+    private static boolean isPublicName(String name) {
+        for (Method method : FacingPlates.class.getMethods()) {
+            if (method.getDeclaringClass() == FacingPlates.class && method.getName().equals(name)) {
+                return true;
+            }
+        }
+        return false;
     }
 }
